@@ -20,7 +20,8 @@ public final class UsageProofs {
     private static final int MOST_SCOPE = MOST_PARAMETERS + 2 * MOST_OPEN;
     // An if holds two layers at once, below the one that everything stands on.
     private static final int MOST_LAYERS = 2 * MOST_OPEN + 2;
-    private static final int MOST_TASKS = 3 * MOST_NODES;
+    // A node waits as one task; the four more of an if are fewer than the bytes of its words.
+    private static final int MOST_TASKS = MOST_NODES;
     private static final int MOST_TASK_TURNS = 100000;
     // Each use of a row can rise four times, one change a round, and one round changes nothing.
     private static final int MOST_ROUNDS = 1000;
@@ -126,8 +127,10 @@ public final class UsageProofs {
 
     private final Text text;
     private final Program spare;
-    private final Parser parser;
     private final Program program;
+    /** USES of THINGS; right only behind rows.refreshUses(). */
+    private final int[] uses;
+    private final Parser parser;
     private final Rows rows;
     private final Machine machine;
     private final int[] arguments;
@@ -135,12 +138,17 @@ public final class UsageProofs {
     private int rounds;
 
     public UsageProofs() {
-        text = new Text();
-        spare = new Program();
-        parser = new Parser(text, spare);
-        program = new Program();
-        rows = new Rows(program);
-        machine = new Machine(program, rows.uses);
+        Text typed = new Text();
+        Program fresh = new Program();
+        Program current = new Program();
+        int[] foretold = new int[MOST_THINGS];
+        text = typed;
+        spare = fresh;
+        program = current;
+        uses = foretold;
+        parser = new Parser(typed, fresh);
+        rows = new Rows(current, foretold);
+        machine = new Machine(current, foretold);
         arguments = new int[MOST_PARAMETERS];
         faultPlace = NONE;
         rounds = 0;
@@ -200,7 +208,7 @@ public final class UsageProofs {
             case 2: return at(program.thingPlaces, t);
             case 3:
                 rows.refreshUses();
-                return at(rows.uses, t);
+                return at(uses, t);
             case 4: return at(machine.counted, t);
             default: return BAD;
         }
@@ -1194,17 +1202,20 @@ public final class UsageProofs {
 
     /** THE ROWS, what a ROUND would make of them, and the USES of THINGS by them. */
     private static final class Rows {
-        /** Right only behind refreshUses(). */
-        final int[] uses = new int[MOST_THINGS];
         private final Program program;
-        private final int[] now = new int[ROW_USES];
-        private final int[] next = new int[ROW_USES];
+        private final int[] uses;
+        private final int[] now;
+        private final int[] next;
         private final Foreteller foreteller;
         private boolean stale;
 
-        Rows(Program source) {
+        Rows(Program source, int[] foretold) {
+            int[] rowUses = new int[ROW_USES];
             program = source;
-            foreteller = new Foreteller(source, now);
+            uses = foretold;
+            now = rowUses;
+            next = new int[ROW_USES];
+            foreteller = new Foreteller(source, rowUses);
             stale = true;
         }
 
