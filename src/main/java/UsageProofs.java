@@ -516,11 +516,11 @@ public final class UsageProofs {
             return d + 1 < defs ? at(defThings, d + 1) : things;
         }
 
+        /** All but the NAMES of DEFS, which nothing asks for behind the parser. */
         void copyFrom(Program other) {
             defs = other.defs;
             things = other.things;
             nodes = other.nodes;
-            System.arraycopy(other.defNames, 0, defNames, 0, MOST_DEFS);
             copyRow(other.defPlaces, defPlaces, defs);
             copyRow(other.defSizes, defSizes, defs);
             copyRow(other.defThings, defThings, defs);
@@ -837,7 +837,6 @@ public final class UsageProofs {
                         fail(FAULT_MEANING);
                     }
                     put(made.marks, i, d);
-                    put(made.firsts, i, NONE);
                 }
             }
         }

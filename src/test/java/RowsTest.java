@@ -81,13 +81,16 @@ public final class RowsTest {
 
     private static void testSplit() {
         UsageProofs p = analysed("f a=split a as x,y in 1;g a=split a as x,y in y;h a b=split (a,b) as x,y in x;"
-                + "i a b=split (a,b) as x,y in 1;j a=split a as x,y in a;");
+                + "i a b=split (a,b) as x,y in 1;j a=split a as x,y in a;k a=split a as x,y in x+y;"
+                + "l a=split a as x,y in x;");
         row(p, 0, 0, 1, 0, 1, 0);
         row(p, 1, 0, 1, 4, 1, 4);
         row(p, 2, 0, 2, 4, 2, 4);
         row(p, 2, 1, 2, 4, 2, 4);
         row(p, 3, 0, 0, 0, 0, 0);
         row(p, 4, 0, 2, 0, 2, 4);
+        row(p, 5, 0, 1, 4, 1, 4);
+        row(p, 6, 0, 1, 4, 1, 4);
     }
 
     private static void testLambda() {
@@ -144,7 +147,8 @@ public final class RowsTest {
 
     private static void testApplicationOfOthers() {
         UsageProofs p = analysed("f a b=a b;g a b=a b 1;h a=a 1 2 3;i a=a 1 2 3 4;j a b=a (b+1);"
-                + "k a b=(if b then a else a) b;l a b=(let x=a in x) b;m a=2 a;");
+                + "k a b=(if b then a else a) b;l a b=(let x=a in x) b;m a=2 a;n a b c d=a b (c+1) d;"
+                + "o a b c d=(\\x.x) a b (c+1) d;");
         row(p, 0, 0, 1, 1, 1, 4);
         row(p, 0, 1, 2, 4, 2, 4);
         row(p, 1, 0, 1, 2, 1, 4);
@@ -156,6 +160,12 @@ public final class RowsTest {
         row(p, 5, 1, 2, 4, 2, 4);
         row(p, 6, 0, 1, 1, 1, 4);
         row(p, 7, 0, 2, 4, 2, 4);
+        for (int d = 8; d < 10; d++) {
+            row(p, d, 0, 1, 3, 1, 4);
+            row(p, d, 1, 2, 4, 2, 4);
+            row(p, d, 2, 1, 0, 1, 0);
+            row(p, d, 3, 2, 4, 2, 4);
+        }
     }
 
     private static void testRounds() {

@@ -12,6 +12,7 @@ public final class TextsTest {
         testTypeFull();
         testReadAndPlace();
         testFailedReadKeeps();
+        testFaultLeavesNothingOpen();
         testGoodReadForgets();
         testTokenFaults();
         testGrammarFaults();
@@ -151,6 +152,19 @@ public final class TextsTest {
         CHECKS.same("its value", 4, p.value());
     }
 
+    private static void testFaultLeavesNothingOpen() {
+        UsageProofs p = new UsageProofs();
+        CHECKS.same("a fault inside", -12, Checks.read(p, "f a=" + Checks.repeat("(", 40) + "\n;"));
+        CHECKS.same("its PARAMETER is not there", -13, Checks.read(p, "f=a;"));
+        CHECKS.same("it may come again", 1, Checks.read(p, "f a=" + Checks.repeat("(", 40) + "a" + Checks.repeat(")", 40) + ";"));
+        CHECKS.same("and again", 1, Checks.read(p, "g a b c d=a;"));
+        CHECKS.same("a fault among PARAMETERS", -14, Checks.read(p, "g a b b=a;"));
+        CHECKS.same("THINGS of the PROGRAM that stays", 4, p.told(2));
+        CHECKS.same("and again", 1, Checks.read(p, "g b a=\\c.c;"));
+        CHECKS.same("THINGS", 4, p.told(2));
+        CHECKS.same("kind", 4, p.thing(2, 0));
+    }
+
     private static void testGoodReadForgets() {
         UsageProofs p = Checks.of("f x=x+x;");
         p.argument(0, 5);
@@ -204,6 +218,10 @@ public final class TextsTest {
         fault("f=\\;", 2, 3);
         fault("f=\\1.1;", 2, 3);
         fault("f=\\x 1;", 2, 5);
+        fault("f=\\.1;", 2, 3);
+        fault("f=let =1 in 1;", 2, 6);
+        fault("f=split 1 as ,y in 1;", 2, 13);
+        fault("f=split 1 as x, in 1;", 2, 16);
         fault("f=\\x.;", 2, 5);
         fault("f=\\if.1;", 2, 3);
         fault("f=let in=1 in 1;", 2, 6);
@@ -358,6 +376,10 @@ public final class TextsTest {
         good("f=" + mixed + "1" + ends + ";", 1);
         fault("f=" + mixed + "(1)" + ends + ";", 5, 2 + mixed.length());
         good("f=" + Checks.repeat("(1)", 60) + ";", 1);
+        good("f=" + Checks.repeat("(let x=1 in x)+", 60) + "1;", 1);
+        good("f=" + Checks.repeat("(if 1 then 2 else 3)+", 60) + "1;", 1);
+        good("f=" + Checks.repeat("(split 1 as x,y in x)+", 60) + "1;", 1);
+        good("f=" + Checks.repeat("(1,2)", 60) + ";", 1);
         good("f=" + Checks.repeat("(\\x.1)+", 60) + "1;", 1);
         String deep = Checks.repeat("(", 39);
         good("f=" + deep + "(1)(1)+(1)" + Checks.repeat(")", 39) + ";", 1);
