@@ -36,8 +36,19 @@ public final class ModelTest {
                 compareRead(Programs.spoil(text, seed * 31 + i), text);
             }
         }
+        for (long seed = base; seed < base + programs; seed++) {
+            String text = Programs.closed(Programs.makeWild(seed));
+            if (new Random(seed).nextInt(4) == 0) {
+                compare(text, seed);
+            } else {
+                compareRead(text, "f a=a;");
+            }
+        }
         for (String text : SPECIAL) {
             compare(text, text.length());
+        }
+        for (String part : new String[] {"a+", "a ", "1a ", "(a)", "a*"}) {
+            compare("f a=" + part.repeat(1990 / part.length()) + "a;", part.length());
         }
     }
 
@@ -55,6 +66,9 @@ public final class ModelTest {
         "y n = let x = y (n - 1) in if n < 1 then 0 else x + 1; m = y 120; o = y 190;",
         "f = f; g = g 1; h = (h, h); i = split h as a, b in split a as c, d in i;",
         "a1 x = x x; om = a1 a1; b1 = (\\x. x x) (\\x. x x);",
+        "l g=(\\x.l g) (g 4);t a b c d=w (t a b c);w g=g 1;f=w (t 1 2 3);q=split (1+1,1+1) as x,y in q;",
+        "r x=r x;s=let x=1 in s;u=(\\x.u2) 1;u2=u;v=v2 v2;v2 a=v;z n=if n<1 then 0 else (\\x.z (n-1)) (n,n);",
+        "f x=f (x,x);g p=split p as x,y in g (y,x);h=g (1,2);w a=w2 (a,a);w2 p=split p as x,y in w x;",
         "f a = let u = a + 1 in let v = u in v; g a = let u = a * a in (\\x. u) 1 + (\\x. u) 2;",
     };
 

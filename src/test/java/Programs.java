@@ -37,6 +37,102 @@ final class Programs {
         return new Programs(seed).program();
     }
 
+    /** A text of few long DEFS without any sorts, nested about as deep as may be, with about as many THINGS. */
+    static String makeWild(long seed) {
+        Random random = new Random(seed);
+        StringBuilder text = new StringBuilder();
+        int room = 600 + random.nextInt(1400);
+        int nest = 20 + random.nextInt(23);
+        for (int d = 0; d < 24 && text.length() < room; d++) {
+            text.append('f').append(d);
+            int size = random.nextInt(5);
+            for (int i = 0; i < size; i++) {
+                text.append(' ').append("abcd".charAt(i));
+            }
+            text.append('=');
+            int end = Math.min(room, text.length() + 40 + random.nextInt(700));
+            wild(text, random, nest, end);
+            text.append(';');
+        }
+        return text.length() <= 2000 ? text.toString() : "f a = a;";
+    }
+
+    private static void wild(StringBuilder text, Random random, int nest, int end) {
+        String name = "abcdxyz".substring(random.nextInt(7)).substring(0, 1);
+        boolean more = nest > 0 && text.length() < end;
+        switch (more ? random.nextInt(11) : 11) {
+            case 0:
+            case 1:
+                text.append("\\").append(name).append('.');
+                wild(text, random, nest - 1, end);
+                break;
+            case 2:
+                text.append("let ").append(name).append('=');
+                wild(text, random, random.nextInt(nest), end);
+                text.append(" in ");
+                wild(text, random, nest - 1, end);
+                break;
+            case 3:
+                text.append("if ");
+                wild(text, random, random.nextInt(2), end);
+                text.append(" then ");
+                wild(text, random, random.nextBoolean() ? nest - 1 : 0, end);
+                text.append(" else ");
+                wild(text, random, nest - 1, end);
+                break;
+            case 4:
+                text.append("split ");
+                wild(text, random, random.nextInt(3), end);
+                text.append(" as ").append(name).append(",u in ");
+                wild(text, random, nest - 1, end);
+                break;
+            case 5:
+                text.append('(');
+                wild(text, random, nest - 1, end);
+                text.append(',');
+                wild(text, random, random.nextInt(nest), end);
+                text.append(')');
+                break;
+            default:
+                wildChain(text, random, more ? nest : 0, end);
+                break;
+        }
+    }
+
+    private static void wildChain(StringBuilder text, Random random, int nest, int end) {
+        String[] joints = {" ", " ", " ", "+", "-", "*"};
+        int parts = 1 + random.nextInt(3);
+        for (int i = 0; i < parts; i++) {
+            text.append(i > 0 ? joints[random.nextInt(joints.length)] : "");
+            int leaf = random.nextInt(8);
+            if (nest > 0 && leaf < 3) {
+                text.append('(');
+                wild(text, random, nest - 1, end);
+                text.append(')');
+            } else if (leaf < 4) {
+                text.append(random.nextInt(3));
+            } else if (leaf < 5) {
+                text.append('f').append(random.nextInt(3));
+            } else {
+                text.append("abcdxyzu".charAt(random.nextInt(8)));
+            }
+        }
+    }
+
+    /** The same with DEFS for all NAMES that may mean nothing, if there is room. */
+    static String closed(String text) {
+        StringBuilder all = new StringBuilder(text);
+        for (String name : new String[] {"a", "b", "c", "d", "x", "y", "z", "u"}) {
+            all.append(name).append("=1;");
+        }
+        for (int d = 0; d < 3; d++) {
+            if (!text.contains("f" + d + " ") && !text.contains("f" + d + "=")) {
+                all.append('f').append(d).append("=2;");
+            }
+        }
+        return all.length() <= 2000 ? all.toString() : text;
+    }
+
     /** A text with some bytes or tokens changed. */
     static String spoil(String text, long seed) {
         Random random = new Random(seed);
