@@ -710,11 +710,10 @@ public final class UsageProofs {
             int first = parseExpression();
             expect(TOKEN_AS);
             long left = text.name;
-            int leftPlace = text.start;
-            expect(TOKEN_NAME);
+            int bound = nameThing(THING_SPLIT);
             expect(',');
             long right = text.name;
-            int bound = splitThings(left, leftPlace);
+            secondName(left);
             expect(TOKEN_IN);
             bring(left, bound);
             bring(right, bound + 1);
@@ -723,22 +722,12 @@ public final class UsageProofs {
             return newNode(NODE_SPLIT, bound, first, second);
         }
 
-        /** Both THINGS of a split are made at its second NAME, which is where the document places their faults. */
-        private int splitThings(long left, int leftPlace) {
-            if (text.token != TOKEN_NAME) {
-                fail(FAULT_GRAMMAR);
-            } else if (text.name == left) {
+        /** Of one token the least FAULT counts: that both NAMES are alike comes ahead of one THING too many. */
+        private void secondName(long first) {
+            if (text.token == TOKEN_NAME && text.name == first) {
                 fail(FAULT_TWICE);
-            } else if (made.things + 2 > MOST_THINGS) {
-                fail(FAULT_MANY);
             }
-            if (fault != 0) {
-                return NONE;
-            }
-            int bound = made.addThing(THING_SPLIT, leftPlace);
-            made.addThing(THING_SPLIT, text.start);
-            advance();
-            return bound;
+            nameThing(THING_SPLIT);
         }
 
         private int nameThing(int kind) {

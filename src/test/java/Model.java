@@ -168,8 +168,8 @@ final class Model {
             return made.things.size() - 1;
         }
 
-        void room(int more, Token token) throws Fault {
-            if (made.things.size() + more > 200) {
+        void room(Token token) throws Fault {
+            if (made.things.size() == 200) {
                 throw new Fault(5, token.where);
             }
         }
@@ -217,7 +217,7 @@ final class Model {
                 if (d.size == 4) {
                     throw new Fault(5, p.where);
                 }
-                room(1, p);
+                room(p);
                 scope.put(p.text, add(0, p));
                 d.size++;
                 next++;
@@ -232,11 +232,11 @@ final class Model {
             Node special;
             if (t.is("\\")) {
                 open(t);
-                room(1, t);
+                room(t);
                 int slash = add(4, t);
                 next++;
                 Token n = wantName();
-                room(1, n);
+                room(n);
                 int bound = add(3, n);
                 next++;
                 want(".");
@@ -245,7 +245,7 @@ final class Model {
                 open(t);
                 next++;
                 Token n = wantName();
-                room(1, n);
+                room(n);
                 int bound = add(1, n);
                 next++;
                 want("=");
@@ -266,14 +266,15 @@ final class Model {
                 Node first = expression(scope);
                 want("as");
                 Token a = wantName();
+                room(a);
+                int bound = add(2, a);
                 next++;
                 want(",");
                 Token b = wantName();
                 if (a.text.equals(b.text)) {
                     throw new Fault(4, b.where);
                 }
-                room(2, b);
-                int bound = add(2, a);
+                room(b);
                 add(2, b);
                 next++;
                 want("in");

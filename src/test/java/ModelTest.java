@@ -44,11 +44,28 @@ public final class ModelTest {
                 compareRead(text, "f a=a;");
             }
         }
+        compareFull();
         for (String text : SPECIAL) {
             compare(text, text.length());
         }
         for (String part : new String[] {"a+", "a ", "1a ", "(a)", "a*"}) {
             compare("f a=" + part.repeat(1990 / part.length()) + "a;", part.length());
+        }
+    }
+
+    /** 196 to 200 THINGS, then what would make more, whole, cut at every place, and with a byte there that is no token. */
+    private static void compareFull() {
+        String[] tails = {"split 1 as x,y in x", "split 1 as x,x in x", "split (split 1 as a,b in a) as x , y in x",
+            "let x=1 in x", "(\\x.x)", "\\x.\\y.x", "split 1 as x,y in split y as x,y in x"};
+        for (int things = 196; things <= 200; things++) {
+            String ahead = "f=1" + "+(\\x.1)".repeat(things / 2) + (things % 2 == 1 ? "+(let x=1 in 1)" : "") + "+(";
+            for (String tail : tails) {
+                String text = ahead + tail + ");";
+                for (int end = ahead.length(); end <= text.length(); end++) {
+                    compareRead(text.substring(0, end), "f a=a;");
+                    compareRead(text.substring(0, end) + "?", "f a=a;");
+                }
+            }
         }
     }
 

@@ -20,6 +20,10 @@ public final class TextsTest {
         testTwiceFaults();
         testDefAndParameterLimits();
         testThingLimits();
+        testSplitFirstNameFull();
+        testSplitSecondNameFull();
+        testSplitFits();
+        testSplitWithinSplit();
         testOpenLimits();
         testDef();
         testThing();
@@ -331,7 +335,6 @@ public final class TextsTest {
         good(manyThings(200) + ";", 24);
         good(manyThings(199) + "+(let x=1 in 1);", 24);
         good(manyThings(198) + "+(\\x.1);", 24);
-        good(manyThings(198) + "+(split 1 as x,y in 1);", 24);
         UsageProofs p = Checks.of(manyThings(200) + ";");
         CHECKS.same("told(2)", 200, p.told(2));
         CHECKS.same("thing(199, 0)", 3, p.thing(199, 0));
@@ -342,10 +345,6 @@ public final class TextsTest {
         thingFault(200, "+(\\x.1);", 5, 2);
         thingFault(199, "+(\\x.1);", 5, 3);
         thingFault(199, "+(\\1.1);", 2, 3);
-        thingFault(199, "+(split 1 as x,y in 1);", 5, 15);
-        thingFault(199, "+(split 1 as x,x in 1);", 4, 15);
-        thingFault(200, "+(split 1 as x,y in 1);", 5, 15);
-        thingFault(200, "+(split 1 as x,1 in 1);", 2, 15);
         StringBuilder lambdas = new StringBuilder("f=0");
         for (int i = 0; i < 99; i++) {
             lambdas.append("+(\\x.1)");
@@ -354,6 +353,78 @@ public final class TextsTest {
         good(lambdas + "g a b=1;", 2);
         fault(lambdas + "g a b c=1;", 5, lambdas.length() + 6);
         fault(lambdas + "g a b b=1;", 4, lambdas.length() + 6);
+    }
+
+    /** 200 THINGS ahead of a split: its first NAME is the token that is one too many, whatever comes behind it. */
+    private static void testSplitFirstNameFull() {
+        thingFault(200, "+(split 1 as x,y in 1);", 5, 13);
+        thingFault(200, "+(split 1 as x,x in 1);", 5, 13);
+        thingFault(200, "+(split 1 as x,1 in 1);", 5, 13);
+        thingFault(200, "+(split 1 as x,? in 1);", 5, 13);
+        thingFault(200, "+(split 1 as x;y in 1);", 5, 13);
+        thingFault(200, "+(split 1 as x?", 5, 13);
+        thingFault(200, "+(split 1 as x\0\0\0\0", 5, 13);
+        thingFault(200, "+(split 1 as x", 5, 13);
+        thingFault(200, "+(split 1 as 1,y in 1);", 2, 13);
+        thingFault(200, "+(split 1 as let,y in 1);", 2, 13);
+        thingFault(200, "+(split 1 as ,y in 1);", 2, 13);
+        thingFault(200, "+(split 1 as ", 2, 13);
+        thingFault(200, "+(split 1 as ?,y in 1);", 1, 13);
+        thingFault(200, "+(split 1 as abcdefghi,y in 1);", 1, 13);
+        thingFault(200, "+(split 1 in x,y in 1);", 2, 10);
+        String slashes = Checks.repeat("\\a.", 39);
+        String brackets = "f=(" + slashes + "1)(" + slashes + "1)(" + Checks.repeat("\\a.", 22) + "1)";
+        fault(brackets + "(split 1 as a\0\0\0\0", 5, 323);
+        UsageProofs p = Checks.of("f a=a;g=1;");
+        CHECKS.same("read a split too many", -15, Checks.read(p, manyThings(200) + "+(split 1 as x,y in 1);"));
+        CHECKS.same("told(1) as before", 2, p.told(1));
+        CHECKS.same("told(2) as before", 1, p.told(2));
+    }
+
+    /** 199 ahead of it: the first NAME is the 200th THING, the second one is too many. */
+    private static void testSplitSecondNameFull() {
+        thingFault(199, "+(split 1 as x,y in 1);", 5, 15);
+        thingFault(199, "+(split 1 as x,y?", 5, 15);
+        thingFault(199, "+(split 1 as x,y", 5, 15);
+        thingFault(199, "+(split 1 as x,x in 1);", 4, 15);
+        thingFault(199, "+(split 1 as x,1 in 1);", 2, 15);
+        thingFault(199, "+(split 1 as x,", 2, 15);
+        thingFault(199, "+(split 1 as x,? in 1);", 1, 15);
+        thingFault(199, "+(split 1 as x;y in 1);", 2, 14);
+        thingFault(199, "+(split 1 as x?", 1, 14);
+    }
+
+    /** 198 ahead of it: both NAMES are THINGS yet. */
+    private static void testSplitFits() {
+        String text = manyThings(198);
+        UsageProofs p = new UsageProofs();
+        CHECKS.same("read", 24, Checks.read(p, text + "+(split 1 as x,y in 1);"));
+        CHECKS.same("place()", NONE, p.place());
+        CHECKS.same("told(2)", 200, p.told(2));
+        for (int t = 198; t < 200; t++) {
+            CHECKS.same("its kind", 2, p.thing(t, 0));
+            CHECKS.same("its DEF", 23, p.thing(t, 1));
+            CHECKS.same("its place", text.length() + 13 + 2 * (t - 198), p.thing(t, 2));
+        }
+        thingFault(198, "+(split 1 as x,x in 1);", 4, 15);
+        thingFault(198, "+(split 1 as x,y in let z=1 in 1);", 5, 24);
+        thingFault(198, "+(split 1 as x,y in \\z.1);", 5, 20);
+        thingFault(198, "+(split 1 as x,y in split 1 as u,v in 1);", 5, 31);
+        good(manyThings(197) + "+(split 1 as x,y in 1);", 24);
+        thingFault(197, "+(split 1 as x,y in split 1 as u,v in 1);", 5, 33);
+    }
+
+    /** The THINGS of a split's first E come ahead of its own NAMES. */
+    private static void testSplitWithinSplit() {
+        String inner = "+(split (split 1 as x,y in 1) as u,v in 1);";
+        thingFault(198, inner, 5, 33);
+        thingFault(197, inner, 5, 35);
+        String text = manyThings(196);
+        UsageProofs p = Checks.of(text + inner);
+        int[] places = {20, 22, 33, 35};
+        for (int i = 0; i < 4; i++) {
+            CHECKS.same("place of THING " + (196 + i), text.length() + places[i], p.thing(196 + i, 2));
+        }
     }
 
     private static void testOpenLimits() {
