@@ -97,34 +97,20 @@ public final class TextsTest {
         CHECKS.same("told(0)", 0, p.told(0));
     }
 
-    private static void fault(String text, int number, int where) {
-        UsageProofs p = new UsageProofs();
-        CHECKS.same("read " + text, -10 - number, Checks.read(p, text));
-        CHECKS.same("place of " + text, where, p.place());
-        CHECKS.same("told(0) behind " + text, 0, p.told(0));
-    }
-
-    private static void good(String text, int defs) {
-        UsageProofs p = new UsageProofs();
-        CHECKS.same("read " + text, defs, Checks.read(p, text));
-        CHECKS.same("place of " + text, NONE, p.place());
-        CHECKS.same("told(1) of " + text, defs, p.told(1));
-    }
-
     private static void testReadAndPlace() {
-        good("", 0);
-        good(" \n \n", 0);
-        good("f=1;", 1);
-        good("f x=x;g=f 1;", 2);
-        good("f=g;g=f;", 2);
-        good("f f=f;", 1);
-        good("f=\\f.let f=f in split f as f,g in if f then g else f;", 1);
-        good("f=1a;a=2;", 2);
-        good("f = 1 - 2 - 3 * 4 < 5 + 6 ;", 1);
-        good("f=(1,\\x.x)(1)(if 1 then 2 else 3);", 1);
-        good("inn=1;lets=2;ifx=3;as1=4;", 4);
-        good("abcdefgh = 999999999;", 1);
-        good("f=\\x.1<2;", 1);
+        CHECKS.good("", 0);
+        CHECKS.good(" \n \n", 0);
+        CHECKS.good("f=1;", 1);
+        CHECKS.good("f x=x;g=f 1;", 2);
+        CHECKS.good("f=g;g=f;", 2);
+        CHECKS.good("f f=f;", 1);
+        CHECKS.good("f=\\f.let f=f in split f as f,g in if f then g else f;", 1);
+        CHECKS.good("f=1a;a=2;", 2);
+        CHECKS.good("f = 1 - 2 - 3 * 4 < 5 + 6 ;", 1);
+        CHECKS.good("f=(1,\\x.x)(1)(if 1 then 2 else 3);", 1);
+        CHECKS.good("inn=1;lets=2;ifx=3;as1=4;", 4);
+        CHECKS.good("abcdefgh = 999999999;", 1);
+        CHECKS.good("f=\\x.1<2;", 1);
         UsageProofs p = new UsageProofs();
         CHECKS.same("read a fault", -12, Checks.read(p, "f"));
         CHECKS.same("place", 1, p.place());
@@ -186,108 +172,108 @@ public final class TextsTest {
     }
 
     private static void testTokenFaults() {
-        fault("?", 1, 0);
-        fault("f=1;\t", 1, 4);
-        fault("f=A;", 1, 2);
-        fault("f=1\r;", 1, 3);
-        fault("f x_y=1;", 1, 3);
-        fault("abcdefghi=1;", 1, 0);
-        fault(" abcdefghi", 1, 1);
-        fault("f=1234567890;", 1, 2);
-        fault("f=0000000001;", 1, 2);
-        fault("f=/;", 1, 2);
-        fault("f=>1;", 1, 2);
-        fault("f=\0;", 1, 2);
-        fault("f=\u00e9;", 1, 2);
-        fault("f=1;;?", 2, 4);
-        fault("f=1;?;", 1, 4);
-        fault("f=)?", 2, 2);
-        fault("f f f=1;?", 4, 4);
-        fault("f a a abcdefghi", 4, 4);
-        fault("f=nothing;?", 1, 10);
-        fault("f=splitsplits;", 1, 2);
+        CHECKS.fault("?", 1, 0);
+        CHECKS.fault("f=1;\t", 1, 4);
+        CHECKS.fault("f=A;", 1, 2);
+        CHECKS.fault("f=1\r;", 1, 3);
+        CHECKS.fault("f x_y=1;", 1, 3);
+        CHECKS.fault("abcdefghi=1;", 1, 0);
+        CHECKS.fault(" abcdefghi", 1, 1);
+        CHECKS.fault("f=1234567890;", 1, 2);
+        CHECKS.fault("f=0000000001;", 1, 2);
+        CHECKS.fault("f=/;", 1, 2);
+        CHECKS.fault("f=>1;", 1, 2);
+        CHECKS.fault("f=\0;", 1, 2);
+        CHECKS.fault("f=\u00e9;", 1, 2);
+        CHECKS.fault("f=1;;?", 2, 4);
+        CHECKS.fault("f=1;?;", 1, 4);
+        CHECKS.fault("f=)?", 2, 2);
+        CHECKS.fault("f f f=1;?", 4, 4);
+        CHECKS.fault("f a a abcdefghi", 4, 4);
+        CHECKS.fault("f=nothing;?", 1, 10);
+        CHECKS.fault("f=splitsplits;", 1, 2);
     }
 
     private static void testGrammarFaults() {
-        fault("1=2;", 2, 0);
-        fault("let=2;", 2, 0);
-        fault("f let=2;", 2, 2);
-        fault("f", 2, 1);
-        fault("f  ", 2, 3);
-        fault("f=", 2, 2);
-        fault("f=1", 2, 3);
-        fault("f=;", 2, 2);
-        fault("f=1;;", 2, 4);
-        fault("f=1 g=2;", 2, 5);
-        fault("f=\\;", 2, 3);
-        fault("f=\\1.1;", 2, 3);
-        fault("f=\\x 1;", 2, 5);
-        fault("f=\\.1;", 2, 3);
-        fault("f=let =1 in 1;", 2, 6);
-        fault("f=split 1 as ,y in 1;", 2, 13);
-        fault("f=split 1 as x, in 1;", 2, 16);
-        fault("f=\\x.;", 2, 5);
-        fault("f=\\if.1;", 2, 3);
-        fault("f=let in=1 in 1;", 2, 6);
-        fault("f=let x 1;", 2, 8);
-        fault("f=let x=1;", 2, 9);
-        fault("f=let x=1 in;", 2, 12);
-        fault("f=if 1 else 2;", 2, 7);
-        fault("f=if 1 then 2;", 2, 13);
-        fault("f=if 1 then 2 else ;", 2, 19);
-        fault("f=split 1 in;", 2, 10);
-        fault("f=split 1 as 1,x in 1;", 2, 13);
-        fault("f=split 1 as x x in 1;", 2, 15);
-        fault("f=split 1 as x,1 in 1;", 2, 15);
-        fault("f=split 1 as x,y 1;", 2, 17);
-        fault("f=1<2<3;", 2, 5);
-        fault("f=1+;", 2, 4);
-        fault("f=*1;", 2, 2);
-        fault("f=1 - - 2;", 2, 6);
-        fault("f=1+\\x.x;", 2, 4);
-        fault("f=1 \\x.x;", 2, 4);
-        fault("f=1 let x=1 in x;", 2, 4);
-        fault("f=();", 2, 3);
-        fault("f=(1;", 2, 4);
-        fault("f=(1,2,3);", 2, 6);
-        fault("f=(1,);", 2, 5);
-        fault("f=1);", 2, 3);
-        fault("f=(1", 2, 4);
-        fault("f=1,2;", 2, 3);
-        fault("(f)=1;", 2, 0);
-        fault("f=1.;", 2, 3);
-        fault("f=in;", 2, 2);
-        fault("f=as;", 2, 2);
-        fault("f=then;", 2, 2);
-        fault("f=else;", 2, 2);
-        fault("f=2;g", 2, 5);
+        CHECKS.fault("1=2;", 2, 0);
+        CHECKS.fault("let=2;", 2, 0);
+        CHECKS.fault("f let=2;", 2, 2);
+        CHECKS.fault("f", 2, 1);
+        CHECKS.fault("f  ", 2, 3);
+        CHECKS.fault("f=", 2, 2);
+        CHECKS.fault("f=1", 2, 3);
+        CHECKS.fault("f=;", 2, 2);
+        CHECKS.fault("f=1;;", 2, 4);
+        CHECKS.fault("f=1 g=2;", 2, 5);
+        CHECKS.fault("f=\\;", 2, 3);
+        CHECKS.fault("f=\\1.1;", 2, 3);
+        CHECKS.fault("f=\\x 1;", 2, 5);
+        CHECKS.fault("f=\\.1;", 2, 3);
+        CHECKS.fault("f=let =1 in 1;", 2, 6);
+        CHECKS.fault("f=split 1 as ,y in 1;", 2, 13);
+        CHECKS.fault("f=split 1 as x, in 1;", 2, 16);
+        CHECKS.fault("f=\\x.;", 2, 5);
+        CHECKS.fault("f=\\if.1;", 2, 3);
+        CHECKS.fault("f=let in=1 in 1;", 2, 6);
+        CHECKS.fault("f=let x 1;", 2, 8);
+        CHECKS.fault("f=let x=1;", 2, 9);
+        CHECKS.fault("f=let x=1 in;", 2, 12);
+        CHECKS.fault("f=if 1 else 2;", 2, 7);
+        CHECKS.fault("f=if 1 then 2;", 2, 13);
+        CHECKS.fault("f=if 1 then 2 else ;", 2, 19);
+        CHECKS.fault("f=split 1 in;", 2, 10);
+        CHECKS.fault("f=split 1 as 1,x in 1;", 2, 13);
+        CHECKS.fault("f=split 1 as x x in 1;", 2, 15);
+        CHECKS.fault("f=split 1 as x,1 in 1;", 2, 15);
+        CHECKS.fault("f=split 1 as x,y 1;", 2, 17);
+        CHECKS.fault("f=1<2<3;", 2, 5);
+        CHECKS.fault("f=1+;", 2, 4);
+        CHECKS.fault("f=*1;", 2, 2);
+        CHECKS.fault("f=1 - - 2;", 2, 6);
+        CHECKS.fault("f=1+\\x.x;", 2, 4);
+        CHECKS.fault("f=1 \\x.x;", 2, 4);
+        CHECKS.fault("f=1 let x=1 in x;", 2, 4);
+        CHECKS.fault("f=();", 2, 3);
+        CHECKS.fault("f=(1;", 2, 4);
+        CHECKS.fault("f=(1,2,3);", 2, 6);
+        CHECKS.fault("f=(1,);", 2, 5);
+        CHECKS.fault("f=1);", 2, 3);
+        CHECKS.fault("f=(1", 2, 4);
+        CHECKS.fault("f=1,2;", 2, 3);
+        CHECKS.fault("(f)=1;", 2, 0);
+        CHECKS.fault("f=1.;", 2, 3);
+        CHECKS.fault("f=in;", 2, 2);
+        CHECKS.fault("f=as;", 2, 2);
+        CHECKS.fault("f=then;", 2, 2);
+        CHECKS.fault("f=else;", 2, 2);
+        CHECKS.fault("f=2;g", 2, 5);
     }
 
     private static void testMeaningFaults() {
-        fault("f=x;", 3, 2);
-        fault("f=let x=x in x;", 3, 8);
-        fault("f=(\\x.x)x;", 3, 8);
-        fault("f=(split 1 as x,y in x)+y;", 3, 24);
-        fault("f=split x as x,y in x;", 3, 8);
-        fault("f x=1;g=x;", 3, 8);
-        fault("f=g+h+i;h=1;", 3, 2);
-        fault("f=g+h+i;g=1;", 3, 4);
-        fault("f=x;g=1;g=2;", 4, 8);
-        fault("f=x;g=;", 2, 6);
-        fault("f=(let x=1 in x)x;", 3, 16);
-        fault("f=\\x.y x;", 3, 5);
+        CHECKS.fault("f=x;", 3, 2);
+        CHECKS.fault("f=let x=x in x;", 3, 8);
+        CHECKS.fault("f=(\\x.x)x;", 3, 8);
+        CHECKS.fault("f=(split 1 as x,y in x)+y;", 3, 24);
+        CHECKS.fault("f=split x as x,y in x;", 3, 8);
+        CHECKS.fault("f x=1;g=x;", 3, 8);
+        CHECKS.fault("f=g+h+i;h=1;", 3, 2);
+        CHECKS.fault("f=g+h+i;g=1;", 3, 4);
+        CHECKS.fault("f=x;g=1;g=2;", 4, 8);
+        CHECKS.fault("f=x;g=;", 2, 6);
+        CHECKS.fault("f=(let x=1 in x)x;", 3, 16);
+        CHECKS.fault("f=\\x.y x;", 3, 5);
     }
 
     private static void testTwiceFaults() {
-        fault("f=1;f=2;", 4, 4);
-        fault("f=1;f f=2;", 4, 4);
-        fault("f x x=1;", 4, 4);
-        fault("f a b a=1;", 4, 6);
-        fault("f=split 1 as x,x in 1;", 4, 15);
-        fault("f a b c d a=1;", 4, 10);
-        fault("f=1; g=2; f", 4, 10);
-        good("f x=1;g x=2;", 2);
-        good("f x=\\x.\\x.x;", 1);
+        CHECKS.fault("f=1;f=2;", 4, 4);
+        CHECKS.fault("f=1;f f=2;", 4, 4);
+        CHECKS.fault("f x x=1;", 4, 4);
+        CHECKS.fault("f a b a=1;", 4, 6);
+        CHECKS.fault("f=split 1 as x,x in 1;", 4, 15);
+        CHECKS.fault("f a b c d a=1;", 4, 10);
+        CHECKS.fault("f=1; g=2; f", 4, 10);
+        CHECKS.good("f x=1;g x=2;", 2);
+        CHECKS.good("f x=\\x.\\x.x;", 1);
     }
 
     private static String defs(int size, String rest) {
@@ -299,17 +285,17 @@ public final class TextsTest {
     }
 
     private static void testDefAndParameterLimits() {
-        good(defs(24, "=1;"), 24);
+        CHECKS.good(defs(24, "=1;"), 24);
         String full = defs(24, "=1;");
-        fault(full + "g=1;", 5, full.length());
-        fault(full + "g", 5, full.length());
-        fault(full + "f3=1;", 4, full.length());
-        fault(full + "3=1;", 2, full.length());
-        fault(full + "?=1;", 1, full.length());
-        good("f a b c d=1;", 1);
-        fault("f a b c d e=1;", 5, 10);
-        fault("f a b c d e", 5, 10);
-        fault("f a b c d 5=1;", 2, 10);
+        CHECKS.fault(full + "g=1;", 5, full.length());
+        CHECKS.fault(full + "g", 5, full.length());
+        CHECKS.fault(full + "f3=1;", 4, full.length());
+        CHECKS.fault(full + "3=1;", 2, full.length());
+        CHECKS.fault(full + "?=1;", 1, full.length());
+        CHECKS.good("f a b c d=1;", 1);
+        CHECKS.fault("f a b c d e=1;", 5, 10);
+        CHECKS.fault("f a b c d e", 5, 10);
+        CHECKS.fault("f a b c d 5=1;", 2, 10);
     }
 
     /** 96 PARAMETERS, then 104 THINGS less those that are missing, in a DEF's E. */
@@ -328,13 +314,13 @@ public final class TextsTest {
 
     private static void thingFault(int things, String more, int number, int behind) {
         String text = manyThings(things);
-        fault(text + more, number, text.length() + behind);
+        CHECKS.fault(text + more, number, text.length() + behind);
     }
 
     private static void testThingLimits() {
-        good(manyThings(200) + ";", 24);
-        good(manyThings(199) + "+(let x=1 in 1);", 24);
-        good(manyThings(198) + "+(\\x.1);", 24);
+        CHECKS.good(manyThings(200) + ";", 24);
+        CHECKS.good(manyThings(199) + "+(let x=1 in 1);", 24);
+        CHECKS.good(manyThings(198) + "+(\\x.1);", 24);
         UsageProofs p = Checks.of(manyThings(200) + ";");
         CHECKS.same("told(2)", 200, p.told(2));
         CHECKS.same("thing(199, 0)", 3, p.thing(199, 0));
@@ -350,9 +336,9 @@ public final class TextsTest {
             lambdas.append("+(\\x.1)");
         }
         lambdas.append(";");
-        good(lambdas + "g a b=1;", 2);
-        fault(lambdas + "g a b c=1;", 5, lambdas.length() + 6);
-        fault(lambdas + "g a b b=1;", 4, lambdas.length() + 6);
+        CHECKS.good(lambdas + "g a b=1;", 2);
+        CHECKS.fault(lambdas + "g a b c=1;", 5, lambdas.length() + 6);
+        CHECKS.fault(lambdas + "g a b b=1;", 4, lambdas.length() + 6);
     }
 
     /** 200 THINGS ahead of a split: its first NAME is the token that is one too many, whatever comes behind it. */
@@ -374,7 +360,7 @@ public final class TextsTest {
         thingFault(200, "+(split 1 in x,y in 1);", 2, 10);
         String slashes = Checks.repeat("\\a.", 39);
         String brackets = "f=(" + slashes + "1)(" + slashes + "1)(" + Checks.repeat("\\a.", 22) + "1)";
-        fault(brackets + "(split 1 as a\0\0\0\0", 5, 323);
+        CHECKS.fault(brackets + "(split 1 as a\0\0\0\0", 5, 323);
         UsageProofs p = Checks.of("f a=a;g=1;");
         CHECKS.same("read a split too many", -15, Checks.read(p, manyThings(200) + "+(split 1 as x,y in 1);"));
         CHECKS.same("told(1) as before", 2, p.told(1));
@@ -410,7 +396,7 @@ public final class TextsTest {
         thingFault(198, "+(split 1 as x,y in let z=1 in 1);", 5, 24);
         thingFault(198, "+(split 1 as x,y in \\z.1);", 5, 20);
         thingFault(198, "+(split 1 as x,y in split 1 as u,v in 1);", 5, 31);
-        good(manyThings(197) + "+(split 1 as x,y in 1);", 24);
+        CHECKS.good(manyThings(197) + "+(split 1 as x,y in 1);", 24);
         thingFault(197, "+(split 1 as x,y in split 1 as u,v in 1);", 5, 33);
     }
 
@@ -428,33 +414,33 @@ public final class TextsTest {
     }
 
     private static void testOpenLimits() {
-        good("f=" + Checks.repeat("(", 40) + "1" + Checks.repeat(")", 40) + ";", 1);
-        fault("f=" + Checks.repeat("(", 41) + "1" + Checks.repeat(")", 41) + ";", 5, 42);
-        good("f=" + Checks.repeat("\\x.", 40) + "1;", 1);
-        fault("f=" + Checks.repeat("\\x.", 41) + "1;", 5, 2 + 120);
-        good("f=" + Checks.repeat("let x=1 in ", 40) + "1;", 1);
-        fault("f=" + Checks.repeat("let x=1 in ", 41) + "1;", 5, 2 + 440);
-        good("f=" + Checks.repeat("if 1 then 2 else ", 40) + "1;", 1);
-        fault("f=" + Checks.repeat("if 1 then 2 else ", 41) + "1;", 5, 2 + 680);
-        good("f=" + Checks.repeat("split 1 as x,y in ", 40) + "1;", 1);
-        fault("f=" + Checks.repeat("split 1 as x,y in ", 41) + "1;", 5, 2 + 720);
-        good("f=" + Checks.repeat("let x=", 40) + "1" + Checks.repeat(" in x", 40) + ";", 1);
-        fault("f=" + Checks.repeat("let x=", 41) + "1" + Checks.repeat(" in x", 41) + ";", 5, 2 + 240);
-        good("f=" + Checks.repeat("if ", 40) + "1" + Checks.repeat(" then 1 else 1", 40) + ";", 1);
-        good("f=" + Checks.repeat("split ", 40) + "1" + Checks.repeat(" as x,y in x", 40) + ";", 1);
+        CHECKS.good("f=" + Checks.repeat("(", 40) + "1" + Checks.repeat(")", 40) + ";", 1);
+        CHECKS.fault("f=" + Checks.repeat("(", 41) + "1" + Checks.repeat(")", 41) + ";", 5, 42);
+        CHECKS.good("f=" + Checks.repeat("\\x.", 40) + "1;", 1);
+        CHECKS.fault("f=" + Checks.repeat("\\x.", 41) + "1;", 5, 2 + 120);
+        CHECKS.good("f=" + Checks.repeat("let x=1 in ", 40) + "1;", 1);
+        CHECKS.fault("f=" + Checks.repeat("let x=1 in ", 41) + "1;", 5, 2 + 440);
+        CHECKS.good("f=" + Checks.repeat("if 1 then 2 else ", 40) + "1;", 1);
+        CHECKS.fault("f=" + Checks.repeat("if 1 then 2 else ", 41) + "1;", 5, 2 + 680);
+        CHECKS.good("f=" + Checks.repeat("split 1 as x,y in ", 40) + "1;", 1);
+        CHECKS.fault("f=" + Checks.repeat("split 1 as x,y in ", 41) + "1;", 5, 2 + 720);
+        CHECKS.good("f=" + Checks.repeat("let x=", 40) + "1" + Checks.repeat(" in x", 40) + ";", 1);
+        CHECKS.fault("f=" + Checks.repeat("let x=", 41) + "1" + Checks.repeat(" in x", 41) + ";", 5, 2 + 240);
+        CHECKS.good("f=" + Checks.repeat("if ", 40) + "1" + Checks.repeat(" then 1 else 1", 40) + ";", 1);
+        CHECKS.good("f=" + Checks.repeat("split ", 40) + "1" + Checks.repeat(" as x,y in x", 40) + ";", 1);
         String mixed = Checks.repeat("(\\x.let y=1 in if 1 then split 1 as a,b in ", 8);
         String ends = Checks.repeat(" else 0)", 8);
-        good("f=" + mixed + "1" + ends + ";", 1);
-        fault("f=" + mixed + "(1)" + ends + ";", 5, 2 + mixed.length());
-        good("f=" + Checks.repeat("(1)", 60) + ";", 1);
-        good("f=" + Checks.repeat("(let x=1 in x)+", 60) + "1;", 1);
-        good("f=" + Checks.repeat("(if 1 then 2 else 3)+", 60) + "1;", 1);
-        good("f=" + Checks.repeat("(split 1 as x,y in x)+", 60) + "1;", 1);
-        good("f=" + Checks.repeat("(1,2)", 60) + ";", 1);
-        good("f=" + Checks.repeat("(\\x.1)+", 60) + "1;", 1);
+        CHECKS.good("f=" + mixed + "1" + ends + ";", 1);
+        CHECKS.fault("f=" + mixed + "(1)" + ends + ";", 5, 2 + mixed.length());
+        CHECKS.good("f=" + Checks.repeat("(1)", 60) + ";", 1);
+        CHECKS.good("f=" + Checks.repeat("(let x=1 in x)+", 60) + "1;", 1);
+        CHECKS.good("f=" + Checks.repeat("(if 1 then 2 else 3)+", 60) + "1;", 1);
+        CHECKS.good("f=" + Checks.repeat("(split 1 as x,y in x)+", 60) + "1;", 1);
+        CHECKS.good("f=" + Checks.repeat("(1,2)", 60) + ";", 1);
+        CHECKS.good("f=" + Checks.repeat("(\\x.1)+", 60) + "1;", 1);
         String deep = Checks.repeat("(", 39);
-        good("f=" + deep + "(1)(1)+(1)" + Checks.repeat(")", 39) + ";", 1);
-        fault("f=" + deep + "(1)(1)+(\\x.1" + Checks.repeat(")", 40) + ";", 5, 2 + 39 + 8);
+        CHECKS.good("f=" + deep + "(1)(1)+(1)" + Checks.repeat(")", 39) + ";", 1);
+        CHECKS.fault("f=" + deep + "(1)(1)+(\\x.1" + Checks.repeat(")", 40) + ";", 5, 2 + 39 + 8);
     }
 
     private static void testDef() {
