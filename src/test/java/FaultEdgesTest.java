@@ -20,6 +20,7 @@ public final class FaultEdgesTest {
         testSplitNames();
         testParameters();
         testInnermost();
+        testMostNamesAtOnce();
         testDefWhereverItStands();
         testFirstNameThatMeansNothing();
         testMeaningComesLast();
@@ -275,6 +276,26 @@ public final class FaultEdgesTest {
         CHECKS.same("PARAMETER, not the DEF", 0, valueOf("f g=g;g=5;"));
         CHECKS.same("its own NAME as PARAMETER", 0, valueOf("f f=f;"));
         CHECKS.same("let, not the DEF", 6, valueOf("f=let g=6 in g;g=5;"));
+    }
+
+    /** 4 PARAMETERS and both NAMES of 40 splits that are open mean themselves, the outermost and the innermost. */
+    private static void testMostNamesAtOnce() {
+        StringBuilder text = new StringBuilder("f a b c d=");
+        for (int i = 0; i < 40; i++) {
+            text.append("split (").append(i).append(",1").append(i).append(") as x").append(i).append(",y").append(i).append(" in ");
+        }
+        // The bracket of the last PAIR would be the 41st that is open, so a DEF gives that one.
+        String last = "split p as x39,y39 in ";
+        String most = text.toString().replace("split (39,139) as x39,y39 in ", last);
+        UsageProofs p = new UsageProofs();
+        String sum = "a*1000000+d*100000+x0*10000+y0*1000+x38*100+y38*10+x39-y39;p=(39,139);";
+        CHECKS.same("read", 2, Checks.read(p, most + sum));
+        CHECKS.same("THINGS", 84, p.told(2));
+        p.argument(0, 7);
+        p.argument(3, 9);
+        CHECKS.same("run", 0, p.run(0, 10000, 0));
+        CHECKS.same("value", 7000000 + 900000 + 0 + 10000 + 3800 + 1380 + 39 - 139, p.value());
+        CHECKS.fault(most + "x40;p=1;", 3, most.length());
     }
 
     /** "else the DEF of that NAME, wherever it stands". */

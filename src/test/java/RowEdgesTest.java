@@ -27,6 +27,7 @@ public final class RowEdgesTest {
         testOtherArgumentsOfLambda();
         testApplicationOfOthers();
         testTakenOut();
+        testDeepestNests();
         testNoneAtFirst();
         testRoundsThatChangeNothing();
         testRoundsOfAChain();
@@ -54,11 +55,15 @@ public final class RowEdgesTest {
         CHECKS.same("DEMAND under " + under + " of " + of, due[1], p.row(d, under, 0, 1));
     }
 
+    /** The USE of the first DEF's PARAMETER; the same behind a DEF and THINGS that have nothing to do with it. */
     private static void uses(String text, int count0, int demand0, int count4, int demand4) {
-        UsageProofs p = Checks.of(text);
-        p.analyse();
-        is(text, p, 0, 0, new int[] {count0, demand0});
-        is(text, p, 0, 1, new int[] {count4, demand4});
+        String[] ahead = {"", "z0 a b=\\c.1;"};
+        for (int d = 0; d < 2; d++) {
+            UsageProofs p = Checks.of(ahead[d] + text);
+            p.analyse();
+            is(ahead[d] + text, p, d, 0, new int[] {count0, demand0});
+            is(ahead[d] + text, p, d, 1, new int[] {count4, demand4});
+        }
     }
 
     private static int[] both(int[] a, int[] b) {
@@ -331,7 +336,7 @@ public final class RowEdgesTest {
             uses("f a=" + call("(let b=1 in a)", m, 0) + ";", 1, demands[m], 1, 4);
             for (int j = 1; j <= m; j++) {
                 uses("f x=" + call("1", m, j) + ";", 2, 4, 2, 4);
-                uses("f x=" + call("(let b=1 in b)", m, j).replace("x", "(x+1)").replace("f (x+1)", "f x") + ";", 1, 0, 1, 0);
+                uses("f x=" + call("(let b=1 in b)", m, j).replace("x", "(x+1)") + ";", 1, 0, 1, 0);
             }
         }
         uses("f a=let h=\\z.a 1 in h 1 2;", 1, 4, 2, 4);
@@ -346,6 +351,23 @@ public final class RowEdgesTest {
         uses("f a=(\\a.a+a) a;", 2, 0, 2, 0);
         uses("f a=split (1,2) as a,b in a;", 0, 0, 0, 0);
         uses("f a=split a as b,a in a;", 1, 4, 1, 4);
+    }
+
+    /** 40 that are open at once, of each that is FORETOLD by parts. */
+    private static void testDeepestNests() {
+        uses("f a=" + Checks.repeat("if 1 then ", 40) + "a" + Checks.repeat(" else 1", 40) + ";", 1, 0, 1, 4);
+        uses("f a=" + Checks.repeat("if 1 then 1 else ", 40) + "a;", 1, 0, 1, 4);
+        uses("f a=" + Checks.repeat("if 1 then a else ", 40) + "a+a;", 2, 0, 2, 4);
+        uses("f a=" + Checks.repeat("if a then 1 else ", 40) + "1;", 2, 0, 2, 0);
+        uses("f a=" + Checks.repeat("if ", 40) + "a" + Checks.repeat(" then 1 else 1", 40) + ";", 1, 0, 1, 0);
+        uses("f a=" + Checks.repeat("\\x.", 40) + "a;", 0, 0, 2, 4);
+        uses("f a=" + Checks.repeat("\\x.", 40) + "a+0;", 0, 0, 2, 0);
+        uses("f a=" + Checks.repeat("let x=1 in ", 40) + "a;", 1, 0, 1, 4);
+        uses("f a=" + Checks.repeat("let x=", 40) + "a" + Checks.repeat(" in x", 40) + ";", 1, 0, 1, 4);
+        uses("f a=" + Checks.repeat("split 1 as x,y in ", 40) + "a;", 1, 0, 1, 4);
+        uses("f a=" + Checks.repeat("split ", 40) + "a" + Checks.repeat(" as x,y in y", 40) + ";", 1, 4, 1, 4);
+        uses("f a=" + Checks.repeat("(1,", 40) + "a" + Checks.repeat(")", 40) + ";", 0, 0, 2, 4);
+        uses("f a=" + Checks.repeat("\\x.if 1 then 1 else ", 20) + "a;", 0, 0, 2, 4);
     }
 
     // ---- promise 7
@@ -364,7 +386,7 @@ public final class RowEdgesTest {
 
     /** "ROUNDS till one changes nothing: how many (that one, too)": 1 at least. */
     private static void testRoundsThatChangeNothing() {
-        CHECKS.same("no object of it", 1, new UsageProofs().analyse());
+        CHECKS.same("a new object", 1, new UsageProofs().analyse());
         CHECKS.same("no DEFS", 1, Checks.of("").analyse());
         CHECKS.same("no PARAMETERS", 1, Checks.of("f=1;g=\\x.x;").analyse());
         CHECKS.same("none needed", 1, Checks.of("f a b c d=1;").analyse());

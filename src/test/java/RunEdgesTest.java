@@ -23,6 +23,10 @@ public final class RunEdgesTest {
         testLastStep();
         testTenThousandSteps();
         testNoSteps();
+        testMostBindings();
+        testMostCells();
+        testMostFunctions();
+        testLongRunsAgain();
         testKindOfEach();
         testKindComesAtOnce();
         testAsManyArguments();
@@ -293,6 +297,55 @@ public final class RunEdgesTest {
         }
     }
 
+    /** 10000 STEPS that make about two BINDINGS each, every one HANDED ON from the one before. */
+    private static void testMostBindings() {
+        UsageProofs p = Checks.of("f=let h=t 1 2 3 in h h;t a b c d=d d;g=split (1,1) as x,y in g;");
+        ran("f", p, 0, OUT, 0);
+        // let; APPLICATION, h; three APPLICATIONS and t; then an APPLICATION and d, and the last without its d.
+        counts("f", p, 10000, 1 + 4996, 4, 1, 1, 5, 0);
+        counted("f", p, 4997, 0, 0, 0, 4996);
+        ran("g", p, 2, OUT, 0);
+        counts("g", p, 10000, 0, 6666, 0, 0, 1, 0);
+    }
+
+    /** 10000 STEPS of which 190 in 191 make a new CELL. */
+    private static void testMostCells() {
+        String text = "s=" + Checks.repeat("split " + Checks.repeat("let a=1in ", 34) + "(1,1)as b,c in ", 5)
+                + Checks.repeat("let a=1in ", 10) + "s;";
+        UsageProofs p = Checks.of(text);
+        CHECKS.same("THINGS", 190, p.told(2));
+        ran("s", p, 0, OUT, 0);
+        // 52 times all 191 NODES, then 68: split, 34 lets, PAIR, split, 31 lets.
+        counts("s", p, 10000, 0, 52 * 190 + 34 + 2 + 31, 0, 0, 1, 0);
+    }
+
+    /** 10000 STEPS that make a FUNCTION each. */
+    private static void testMostFunctions() {
+        UsageProofs p = Checks.of("r x=r x;q=(\\x.x x) (\\x.x x);");
+        p.argument(0, 5);
+        ran("r", p, 0, OUT, 0);
+        counts("r", p, 10000, 0, 0, 0, 0, 1, 0);
+        ran("q", p, 1, OUT, 0);
+        CHECKS.same("STEPS", 10000, p.count(0));
+        CHECKS.same("CALLS", 4999, p.count(6));
+    }
+
+    /** A RUN has nothing of those before it. */
+    private static void testLongRunsAgain() {
+        UsageProofs p = Checks.of("f=let h=t 1 2 3 in h h;t a b c d=d d;g=let x=1 in g;r x=r x;c n=if n<1 then 0 else c (n-1);");
+        p.argument(0, 1110);
+        for (int times = 0; times < 12; times++) {
+            ran("f", p, 0, OUT, 0);
+            CHECKS.same("COUNTED", 4997, p.thing(0, 4));
+            ran("g", p, 2, OUT, 0);
+            CHECKS.same("new CELLS", 5000, p.count(2));
+            ran("r", p, 3, OUT, 0);
+            CHECKS.same("STEPS", 10000, p.count(0));
+            ran("c", p, 4, NUMBER, 0);
+            CHECKS.same("STEPS", 9995, p.count(0));
+        }
+    }
+
     /** "a NUMBER for if and OPERATORS, a PAIR for split, a FUNCTION for an APPLICATION". */
     private static void testKindOfEach() {
         for (String other : new String[] {"(1,2)", "(\\x.x)", "g", "h", "(g 1)"}) {
@@ -518,6 +571,13 @@ public final class RunEdgesTest {
         CHECKS.same("USES", 0, none.thing(0, 3));
         CHECKS.same("run", NUMBER, none.run(0, 100, 1));
         counts("USES 0", none, 12, 2, 1, 2, 0, 3, 0);
+        UsageProofs asIs = Checks.of("f=let x=2*3 in g x;g a=a+a;");
+        int[] kept = {0, 1, 0, 1};
+        for (int times = 0; times < 4; times++) {
+            asIs.plant(1, 0, 0, 1 + times % 2, 0);
+            CHECKS.same("run by the ROWS as they are", NUMBER, asIs.run(0, 100, 1));
+            CHECKS.same("values KEPT", kept[times], asIs.count(4));
+        }
         UsageProofs others = Checks.of("f=g (2*3);g a=a;h=split (2*3,1) as x,y in x;i=(\\z.z) (2*3);");
         others.analyse();
         for (int d : new int[] {0, 2, 3}) {

@@ -16,6 +16,7 @@ public final class TextEdgesTest {
         testFullTakesNoPart();
         testFullTextIsEmptied();
         testFullTextIsRead();
+        testDensestText();
         testPlacesFrom0();
         testLowestBytesHighestFirst();
         testBytesAbove127();
@@ -155,6 +156,25 @@ public final class TextEdgesTest {
         CHECKS.same("read", 1, Checks.read(p, text));
         CHECKS.same("value", 7, valueOf(p, 0));
         CHECKS.same("it has room again", 1, p.type(0x20, 1));
+    }
+
+    /** 2000 bytes with as many NODES as they can have, all of which count. */
+    private static void testDensestText() {
+        String calls = "f a=" + Checks.repeat("1a ", 664) + "1a; ";
+        UsageProofs p = new UsageProofs();
+        CHECKS.same("bytes", 2000, calls.length());
+        CHECKS.same("read", 1, Checks.read(p, calls));
+        CHECKS.same("analyse", 2, p.analyse());
+        CHECKS.same("USES", 2, p.thing(0, 3));
+        CHECKS.same("a long APPLICATION is DEEP", 5, p.run(0, 10000, 0));
+        CHECKS.same("STEPS", 401, p.count(0));
+        String sums = "f a=(" + Checks.repeat("1+", 390) + "a)+(" + Checks.repeat("1-", 390) + "a)*2+0*(" + Checks.repeat("1*", 200) + "a);";
+        UsageProofs q = Checks.of(sums + Checks.repeat(" ", 2000 - sums.length()));
+        q.argument(0, 5);
+        CHECKS.same("a long sum", 395 + 2 * (1 - 389 - 5), valueOf(q, 0));
+        CHECKS.same("USES", 0, q.thing(0, 3));
+        q.analyse();
+        CHECKS.same("USES", 2, q.thing(0, 3));
     }
 
     /** "places from 0". */
@@ -372,7 +392,7 @@ public final class TextEdgesTest {
         CHECKS.same("place of FAULT 3", 8, p.place());
         CHECKS.same("a good read", 1, Checks.read(p, "f=1;"));
         CHECKS.same("it had none", NONE, p.place());
-        CHECKS.same("read", -12, Checks.read(p, "?".replace('?', ';')));
+        CHECKS.same("read", -12, Checks.read(p, ";"));
         CHECKS.same("place 0", 0, p.place());
         CHECKS.same("read nothing", 0, p.read());
         CHECKS.same("it had none", NONE, p.place());

@@ -17,6 +17,7 @@ public final class ThingEdgesTest {
         testUsesOfParameters();
         testUsesOfOthers();
         testUsesFollowTheRows();
+        testUsesOfANewProgram();
         testCountedBeforeARun();
         testCountedOfTheLatestRun();
         testToldBytes();
@@ -209,6 +210,25 @@ public final class ThingEdgesTest {
         CHECKS.same("behind analyse", 2, q.thing(1, 3));
         q.run(1, 100, 3);
         CHECKS.same("a RUN changes no ROW", 2, q.thing(1, 3));
+    }
+
+    /** USES are of the PROGRAM as it is, also when those of another one were asked for just before. */
+    private static void testUsesOfANewProgram() {
+        UsageProofs p = Checks.of("f=let x=1 in x;");
+        CHECKS.same("once", 1, p.thing(0, 3));
+        CHECKS.same("read", 1, Checks.read(p, "f=let x=1 in 2;"));
+        CHECKS.same("never", 0, p.thing(0, 3));
+        CHECKS.same("read", 1, Checks.read(p, "f=let x=1 in x+x;"));
+        CHECKS.same("many times", 2, p.thing(0, 3));
+        CHECKS.same("no PROGRAM", -12, Checks.read(p, "f=let x=1 in x"));
+        CHECKS.same("many times still", 2, p.thing(0, 3));
+        CHECKS.same("run", 0, p.run(0, 100, 3));
+        CHECKS.same("read", 1, Checks.read(p, "f=let x=1 in x;"));
+        CHECKS.same("run", 0, p.run(0, 100, 3));
+        CHECKS.same("not KEPT", 0, p.count(4));
+        CHECKS.same("read", 1, Checks.read(p, "f=let x=1 in x+x;"));
+        CHECKS.same("run", 0, p.run(0, 100, 3));
+        CHECKS.same("KEPT", 1, p.count(4));
     }
 
     /** "(0 before a RUN of this PROGRAM)". */
